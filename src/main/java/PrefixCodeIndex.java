@@ -646,7 +646,8 @@ public final class PrefixCodeIndex {
         }
 
         int lifetime() {
-            return Math.min(LONGEST_LIFE, 10 * weight + 5 * hits);
+            int days = 10 * weight + 5 * hits;
+            return days < LONGEST_LIFE ? days : LONGEST_LIFE;
         }
 
         boolean hasFaded() {
@@ -1018,10 +1019,22 @@ public final class PrefixCodeIndex {
 
         static int nodeOf(int digits, int value) {
             int node = 0;
-            for (int depth = 1; depth <= digits; depth++) {
-                node = child(node, withoutEnd(value, digits - depth) % 10);
+            // The value of a shorter prefix stands in the last places.
+            for (int place = CODE_DIGITS - digits; place < CODE_DIGITS; place++) {
+                node = child(node, digitAt(value, place));
             }
             return node;
+        }
+
+        private static int digitAt(int number, int place) {
+            switch (place) {
+                case 0:
+                    return number / 100 % 10;
+                case 1:
+                    return number / 10 % 10;
+                default:
+                    return number % 10;
+            }
         }
 
         private static int child(int node, int digit) {
@@ -1050,7 +1063,7 @@ public final class PrefixCodeIndex {
             int depth = 0;
             int node = 0;
             while (depth < CODE_DIGITS) {
-                node = child(node, withoutEnd(code, CODE_DIGITS - depth - 1) % 10);
+                node = child(node, digitAt(code, depth));
                 if (codesAt(node) == 0) {
                     return depth;
                 }
@@ -1085,15 +1098,16 @@ public final class PrefixCodeIndex {
         }
 
         private void countCode(int code, int met) {
-            boolean codeIsNew = entriesAt(nodeOf(CODE_DIGITS, code)) == 0;
-            for (int depth = 0; depth <= CODE_DIGITS; depth++) {
-                int node = nodeOf(depth, withoutEnd(code, CODE_DIGITS - depth));
-                if (node < NODES && depth > met) {
+            boolean codeIsNew = entriesAt(FIRST_LEAF + code) == 0;
+            int node = 0;
+            for (int depth = 0; depth <= CODE_DIGITS && node < NODES; depth++) {
+                if (depth > met) {
                     entryCounts[node]++;
                 }
-                if (node < NODES && codeIsNew) {
+                if (codeIsNew) {
                     codeCounts[node]++;
                 }
+                node = child(node, digitAt(code, depth));
             }
         }
     }
@@ -1133,6 +1147,8 @@ public final class PrefixCodeIndex {
 
     /** The input buffer, and the commands that were read from it. */
     private static final class Program {
+        private static final int MOST_NUMBER_DIGITS = 3;
+
         private final char[] text = new char[BUFFER_ROOM];
         int length = 0;
         private int position = 0;
@@ -1167,9 +1183,10 @@ public final class PrefixCodeIndex {
                 if (position >= length) {
                     return NONE;
                 }
-                if (!skip(';')) {
+                if (!stands(';')) {
                     return position;
                 }
+                position++;
             }
             return position;
         }
@@ -1245,11 +1262,11 @@ public final class PrefixCodeIndex {
                 case ADD_CODE:
                 case REMOVE_CODE:
                 case MERGE:
-                    return readFirst(3) && readSecond();
+                    return readFirst(MOST_NUMBER_DIGITS) && readSecond();
                 case SEARCH:
                     return !stands(' ') || readPrefix();
                 default:
-                    return readFirst(3);
+                    return readFirst(MOST_NUMBER_DIGITS);
             }
         }
 
@@ -1262,7 +1279,7 @@ public final class PrefixCodeIndex {
         }
 
         private boolean readSecond() {
-            if (!readNumber(3)) {
+            if (!readNumber(MOST_NUMBER_DIGITS)) {
                 return false;
             }
             seconds[count] = number;
@@ -1270,7 +1287,7 @@ public final class PrefixCodeIndex {
         }
 
         private boolean readPrefix() {
-            if (!readNumber(CODE_DIGITS)) {
+            if (!readNumber(MOST_NUMBER_DIGITS)) {
                 return false;
             }
             firsts[count] = numberDigits;
@@ -1282,9 +1299,10 @@ public final class PrefixCodeIndex {
         private boolean readNumber(int mostDigits) {
             number = 0;
             numberDigits = 0;
-            if (!skip(' ')) {
+            if (!stands(' ')) {
                 return false;
             }
+            position++;
             while (numberDigits < mostDigits && digitStands()) {
                 number = 10 * number + (text[position] - '0');
                 numberDigits++;
@@ -1299,14 +1317,6 @@ public final class PrefixCodeIndex {
 
         private boolean digitStands() {
             return position < length && text[position] >= '0' && text[position] <= '9';
-        }
-
-        private boolean skip(char character) {
-            if (!stands(character)) {
-                return false;
-            }
-            position++;
-            return true;
         }
     }
 

@@ -201,6 +201,11 @@ public final class ChangesTest {
         Check.answers(8, 2, () -> x.startSegment());
         Check.answers(8, 10, () -> x.addEntry(1));
         Check.answers(8, 2, () -> x.segmentOf(10));
+        PrefixCodeIndex y = new PrefixCodeIndex();
+        y.startSegment();
+        y.addEntry(1);
+        Check.answers(9, 1, () -> y.joinSegments(0));
+        Check.answers(9, 0, () -> y.segmentOf(0));
     }
 
     private static void search() {

@@ -143,5 +143,10 @@ public final class FadingTest {
         Check.answers(47, true, () -> x.isConsistent());
         x.undo();
         Check.answers(47, true, () -> x.isConsistent());
+        PrefixCodeIndex y = new PrefixCodeIndex();
+        Check.run(y, "entry 1;entry 2;entry 3;entry 4;merge 0 1;drop 2;days 60");
+        Check.answers(47, "4 1 1 2", () -> y.addedTotal() + " " + y.removedTotal() + " " + y.mergedTotal() + " "
+                + y.fadedTotal());
+        Check.answers(47, true, () -> y.isConsistent());
     }
 }

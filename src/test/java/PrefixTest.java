@@ -181,6 +181,10 @@ public final class PrefixTest {
         Check.answers(34, 0, () -> x.codeAfter(-1));
         Check.answers(34, 999, () -> x.codeAfter(998));
         Check.refuses(34, MISSING, () -> x.codeAfter(999));
+        x.removeEntry(3);
+        Check.refuses(34, MISSING, () -> x.codeAfter(430));
+        x.removeCode(0, 430);
+        Check.refuses(34, MISSING, () -> x.codeAfter(421));
     }
 
     private static void commonest() {
@@ -217,6 +221,10 @@ public final class PrefixTest {
         Check.refuses(37, MISSING, () -> x.mostSimilar(4));
         x.addCode(2, 430);
         Check.answers(37, 2, () -> x.mostSimilar(0));
+        Check.answers(36, 2, () -> x.sharedCodes(0, 2));
+        x.removeCode(0, 430);
+        Check.answers(36, 1, () -> x.sharedCodes(0, 2));
+        Check.answers(36, 1, () -> x.sharedCodes(2, 0));
         x.removeEntry(0);
         Check.answers(37, 2, () -> x.mostSimilar(1));
         x.removeEntry(2);

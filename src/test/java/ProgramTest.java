@@ -68,6 +68,12 @@ public final class ProgramTest {
         Check.answers(52, 22, () -> 10 * x.hitsOf(0) + x.hitsOf(1));
         Check.answers(52, 12, () -> Check.run(x, "find;find;find;find;find;find;find;find;find;find;find;find"));
         Check.answers(52, 154, () -> 10 * x.hitsOf(0) + x.hitsOf(1));
+        Check.answers(52, 1, () -> Check.run(x, "find 0"));
+        Check.answers(52, 1, () -> Check.run(x, "find"));
+        Check.answers(52, 2, () -> Check.run(x, "entry 1;find"));
+        Check.type(x, "entry");
+        Check.refuses(52, UNFIT, () -> x.run());
+        Check.answers(53, 5, () -> x.errorPosition());
     }
 
     private static void malformed() {
