@@ -6,17 +6,39 @@ final class Check {
 
     private static int passed = 0;
     private static int failed = 0;
+    private static String subject = "";
 
     private Check() {
     }
 
     static void answers(int promise, Object due, Call call) {
-        note(promise, String.valueOf(due), outcome(call));
+        note("promise " + promise, String.valueOf(due), outcome(call));
     }
 
     /** The class must be the very one that is due: what the machine throws is a class below it. */
     static void refuses(int promise, Class<? extends RuntimeException> due, Call call) {
-        note(promise, "throws " + due.getName(), outcome(call));
+        note("promise " + promise, "throws " + due.getName(), outcome(call));
+    }
+
+    /** What the checks without a promise are about. */
+    static void about(String text) {
+        subject = text;
+    }
+
+    static void answers(Object due, Call call) {
+        note(subject, String.valueOf(due), outcome(call));
+    }
+
+    static void refuses(Class<? extends RuntimeException> due, Call call) {
+        note(subject, "throws " + due.getName(), outcome(call));
+    }
+
+    static int made() {
+        return passed + failed;
+    }
+
+    static int wrong() {
+        return failed;
     }
 
     static String outcome(Call call) {
@@ -27,15 +49,26 @@ final class Check {
         }
     }
 
-    private static void note(int promise, String due, String got) {
+    private static void note(String checked, String due, String got) {
         if (due.equals(got)) {
             passed++;
             return;
         }
         failed++;
-        StackTraceElement place = new Throwable().getStackTrace()[2];
-        System.out.println(place.getFileName() + ":" + place.getLineNumber() + " promise " + promise
+        StackTraceElement place = placeOfTest();
+        System.out.println(place.getFileName() + ":" + place.getLineNumber() + " " + checked
                 + ": the answer is " + got + ", due is " + due);
+    }
+
+    /** The first place outside the helpers. */
+    private static StackTraceElement placeOfTest() {
+        StackTraceElement[] places = new Throwable().getStackTrace();
+        int index = 0;
+        while (index < places.length - 1
+                && (places[index].getClassName().equals("Check") || places[index].getClassName().equals("Boundaries"))) {
+            index++;
+        }
+        return places[index];
     }
 
     static void finish() {

@@ -58,7 +58,8 @@ public final class LineTest {
         Check.answers(49, 0, () -> x.ageOf(0) + x.hitsOf(1));
     }
 
-    private static void longLines() {
+    /** Twenty entries with ids of three digits. */
+    private static PrefixCodeIndex highIds() {
         PrefixCodeIndex x = new PrefixCodeIndex();
         for (int i = 0; i < 100; i++) {
             x.addEntry(9);
@@ -69,19 +70,28 @@ public final class LineTest {
             x.addCode(i, i);
             x.addCode(i, 500 + i);
         }
-        StringBuilder due = new StringBuilder();
-        for (int i = 100; i < 120; i++) {
-            due.append(i > 100 ? "," : "").append(i).append("=100");
-        }
-        Check.answers(49, due.toString(), () -> Check.results(x, 0, 0));
+        return x;
+    }
+
+    private static PrefixCodeIndex oldHighIds() {
+        PrefixCodeIndex x = highIds();
         for (int i = 0; i < 30; i++) {
             x.search(0, 0);
         }
         x.pass(60);
         x.pass(60);
         x.pass(30);
-        Check.answers(49, due.toString().replace("=100", "=-50"), () -> Check.results(x, 0, 0));
-        Check.answers(48, "e119 w9 a150 h30 s0 119 619", () -> Check.entry(x, 119));
+        return x;
+    }
+
+    private static void longLines() {
+        StringBuilder due = new StringBuilder();
+        for (int i = 100; i < 120; i++) {
+            due.append(i > 100 ? "," : "").append(i).append("=100");
+        }
+        Check.answers(49, due.toString(), () -> Check.results(highIds(), 0, 0));
+        Check.answers(49, due.toString().replace("=100", "=-50"), () -> Check.results(oldHighIds(), 0, 0));
+        Check.answers(48, "e119 w9 a150 h30 s0 119 619", () -> Check.entry(oldHighIds(), 119));
     }
 
     private static void characters() {
