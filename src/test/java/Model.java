@@ -415,8 +415,17 @@ final class Model {
         return now.items.values().stream().filter(item -> item.age + days > item.lifetime()).count();
     }
 
-    Object totals() {
-        return now.added + " " + now.removed + " " + now.merged + " " + now.faded;
+    Object total(String name) {
+        switch (name) {
+            case "added":
+                return now.added;
+            case "removed":
+                return now.removed;
+            case "merged":
+                return now.merged;
+            default:
+                return now.faded;
+        }
     }
 
     Object meanCodes() {

@@ -154,6 +154,22 @@ final class TermBoundaries extends Boundaries {
         }
     }
 
+    @Sentence(in = "Terms", words = "A code has a prefix if it begins with its digits.")
+    static void beginsWithDigits() {
+        PrefixCodeIndex x = entryWith(142, 420, 42);
+        answers(3, () -> x.codesWith(0, 0));
+        answers(1, () -> x.codesWith(1, 4));
+        answers(0, () -> x.codesWith(1, 2));
+        answers(1, () -> x.codesWith(2, 42));
+        answers(1, () -> x.codesWith(2, 4));
+        answers(0, () -> x.codesWith(2, 20));
+        answers(1, () -> x.codesWith(3, 42));
+        answers(0, () -> x.codesWith(3, 4));
+        answers(false, () -> entryWith(142).matches(0, 2, 42));
+        answers(0, () -> entryWith(142).resultCountByScan(2, 42));
+        answers(1, () -> entryWith(420).resultCountByScan(2, 42));
+    }
+
     @Sentence(in = "Terms", words = "so every code has the prefix without digits, but an entry without codes matches no "
             + "prefix.")
     static void noDigitsAndNoCodes() {
