@@ -20,6 +20,7 @@ public final class ChangesTest {
         search();
         pass();
         passOneAfterTheOther();
+        fullIndex();
         Check.finish();
     }
 
@@ -49,6 +50,7 @@ public final class ChangesTest {
         Check.answers(2, 9, () -> x.weightOf(8));
         x.removeEntry(19);
         Check.answers(2, 20, () -> x.addEntry(9));
+        Check.answers(2, 21, () -> x.addedTotal());
         Check.answers(2, "e20 w9 a0 h0 s0", () -> Check.entry(x, 20));
         Check.refuses(2, REFUSED, () -> x.addEntry(9));
     }
@@ -266,5 +268,22 @@ public final class ChangesTest {
         Check.answers(11, 5, () -> x.idAt(0));
         Check.answers(11, 60, () -> x.ageOf(5));
         Check.answers(11, 1, () -> x.pass(1));
+    }
+
+    private static void fullIndex() {
+        PrefixCodeIndex x = new PrefixCodeIndex();
+        x.startSegment();
+        for (int i = 0; i < 20; i++) {
+            x.addEntry(1);
+        }
+        Check.answers(9, 1, () -> x.joinSegments(0));
+        Check.answers(9, 20, () -> x.entriesIn(0));
+        Check.answers(6, 0, () -> x.touch(19));
+        Check.answers(3, 1, () -> x.addCode(19, 5));
+        Check.answers(7, 1, () -> x.merge(19, 0));
+        Check.answers(7, 19, () -> x.entryCount());
+        Check.answers(2, 20, () -> x.addEntry(2));
+        Check.answers(11, 19, () -> x.pass(11));
+        Check.answers(5, 0, () -> x.removeEntry(20));
     }
 }

@@ -16,6 +16,8 @@ public final class PrefixTest {
         codeAfter();
         commonest();
         similar();
+        nothingOfGoneEntries();
+        fullIndex();
         Check.finish();
     }
 
@@ -230,5 +232,63 @@ public final class PrefixTest {
         x.removeEntry(2);
         x.removeEntry(3);
         Check.refuses(37, MISSING, () -> x.mostSimilar(1));
+    }
+
+    /** The codes of an entry that has left by a removal, a day, a run, an undo or a restore are told by no call. */
+    private static void nothingOfGoneEntries() {
+        String[] ways = {"drop 1", "days 11", "uncode 1 123;uncode 1 5", "undo", "restore"};
+        for (String way : ways) {
+            PrefixCodeIndex x = new PrefixCodeIndex();
+            x.addEntry(2);
+            x.save();
+            Check.run(x, "entry 1;code 1 123;code 1 5");
+            Check.answers(25, 1, () -> x.resultCount(2, 12));
+            Check.answers(29, 2, () -> x.codesWith(0, 0));
+            leave(x, way);
+            Check.answers(25, 0, () -> x.resultCount(0, 0));
+            Check.answers(26, 0, () -> x.resultCountByScan(0, 0));
+            Check.refuses(27, MISSING, () -> x.resultAt(0, 0, 0));
+            Check.answers(29, 0, () -> x.codesWith(2, 12));
+            Check.answers(30, 0, () -> x.nextDigits(1, 0));
+            Check.answers(31, 0, () -> x.sharedDigits(123));
+            Check.answers(32, 0, () -> x.sharedDigitsByScan(123));
+            Check.answers(33, 0, () -> x.entriesWith(5));
+            Check.refuses(34, MISSING, () -> x.codeAfter(-1));
+            Check.refuses(35, MISSING, () -> x.commonestCode());
+        }
+    }
+
+    private static void leave(PrefixCodeIndex x, String way) {
+        if (way.equals("undo")) {
+            x.undo();
+        } else if (way.equals("restore")) {
+            x.restore();
+        } else {
+            Check.run(x, way);
+        }
+    }
+
+    private static void fullIndex() {
+        PrefixCodeIndex x = new PrefixCodeIndex();
+        for (int i = 0; i < 20; i++) {
+            x.addEntry(9);
+            x.addCode(i, 10 * i);
+            x.addCode(i, 999);
+        }
+        Check.answers(25, 20, () -> x.resultCount(1, 9));
+        Check.answers(26, 20, () -> x.resultCountByScan(1, 9));
+        Check.answers(27, 19, () -> x.resultAt(1, 9, 19));
+        Check.refuses(27, MISSING, () -> x.resultAt(1, 9, 20));
+        Check.answers(29, 21, () -> x.codesWith(0, 0));
+        Check.answers(30, 10, () -> x.nextDigits(1, 1));
+        Check.answers(31, 2, () -> x.sharedDigits(198));
+        Check.answers(32, 2, () -> x.sharedDigitsByScan(198));
+        Check.answers(33, 20, () -> x.entriesWith(999));
+        Check.answers(34, 999, () -> x.codeAfter(190));
+        Check.answers(35, 999, () -> x.commonestCode());
+        Check.answers(37, 0, () -> x.mostSimilar(19));
+        Check.answers(10, 20, () -> x.search(0, 0));
+        Check.answers(10, 1, () -> x.search(2, 19));
+        Check.answers(10, 2, () -> x.hitsOf(19));
     }
 }

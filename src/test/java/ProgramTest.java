@@ -39,7 +39,9 @@ public final class ProgramTest {
     private static void everyCommand() {
         PrefixCodeIndex x = new PrefixCodeIndex();
         Check.answers(52, 5, () -> Check.run(x, "entry 1;entry 9;segment;entry 5;code 0 7"));
+        Check.answers(52, 1, () -> x.entriesWith(7));
         Check.answers(52, 5, () -> Check.run(x, "code 1 070;code 1 7;code 2 999;uncode 1 70;days 5"));
+        Check.answers(52, 2, () -> x.entriesWith(7));
         Check.answers(52, "e0 w1 a5 h0 s0 007", () -> Check.entry(x, 0));
         Check.answers(52, "e1 w9 a5 h0 s0 007", () -> Check.entry(x, 1));
         Check.answers(52, "e2 w5 a5 h0 s1 999", () -> Check.entry(x, 2));
